@@ -408,6 +408,13 @@ final class PromiseTest {
         due("no LOCK", y.about(2), 0);
         due("LAYERS and BOUND", y.about(3), 1);
         due("no STAR", y.about(5), NONE);
+        // All but one BLADE have ABOVE and BELOW: 0 and 6 without ABOVE, without BELOW.
+        for (String text : new String[] {"u1u3u2o6u0o1", "o1o3o2u6o0u1", "u0u2u1o5u6o0", "o0o2o1u5o6u0"}) {
+            BladeRing z = ringOf(7);
+            due("acts " + text, acts(z, text), 1);
+            due("all HELD", z.about(8), 7);
+            due("no LOCK by " + text, z.about(2), 0);
+        }
         stars(5, "u0u1u4", 2);
         stars(7, "u0u1u2u6u0u5", 2);
         stars(7, "u0u1u3u2u1u4u6", 3);
@@ -525,6 +532,13 @@ final class PromiseTest {
         texts("20(11(.)) x", -20, 1);
         texts("20(11(.)) u8", -21, 3);
         texts("20(11(.))u", -20, 2);
+        texts(".".repeat(160), 1, 0);
+        texts(".".repeat(157) + "2(.", -170, 2);
+        texts(".".repeat(156) + "2(.)", 1, 0);
+        texts(" ".repeat(159) + ".", 1, 0);
+        texts(" ".repeat(160), -170, 2);
+        texts("1".repeat(160), -10, 1);
+        texts("u" + "0".repeat(159), -11, 1);
         BladeRing x = new BladeRing();
         due("fault at first", x.fault(), 0);
         Check.figure(x, "u");
@@ -547,6 +561,9 @@ final class PromiseTest {
         texts(")123", -10, 2);
         texts("(u1)", -10, 2);
         texts("2()", -12, 2);
+        texts(".2()", -13, 2);
+        texts("2(.2())", -15, 2);
+        texts("2(.)2()", -16, 2);
         texts("2(u1", -14, 2);
         texts("2(u1  ", -16, 2);
         texts("2(3(u1)", -17, 2);
