@@ -94,6 +94,9 @@ final class FaceTest {
             boolean only = !line.startsWith("import") || line.equals("import java.util.Arrays;");
             C.due("line " + (i + 1) + " imports", only ? 1 : 0, 1);
             C.due("line " + (i + 1) + " has -> or ::", line.contains("->") || line.contains("::") ? 1 : 0, 0);
+            boolean makes = line.matches(".*\\bnew\\b.*");
+            boolean ofRow = line.matches(" {4,8}(private )?final .* = new .*;| {12,16}\\w+\\[i\\] = new \\w+\\(\\);");
+            C.due("line " + (i + 1) + " makes an object in a call", makes && !ofRow ? 1 : 0, 0);
             C.due("line " + (i + 1) + " divides", line.matches(".*[/%].*") ? 1 : 0, 0);
             boolean opens = line.matches(" {4,8}[a-zA-Z].*\\) \\{");
             since = opens ? i : since;

@@ -213,7 +213,7 @@ final class ModelTest {
             due("end(" + end + ")", x.end(end), m.end(end));
             calls++;
         }
-        if (calls < left) {
+        if (calls < left - 1) {
             due("figure() of \"" + text + "\"", x.figure(), m.figure());
             due("fault()", x.fault(), m.fault());
             calls += 2;

@@ -725,8 +725,13 @@ public final class BladeRing {
             undoable = 0;
         }
 
+        /** A row of the past; the ring of rows is never left, but an index is looked at first. */
+        Weave rowAt(int i) {
+            return i >= 0 && i < past.length ? past[i] : now;
+        }
+
         int attempt(int sort, int number) {
-            past[next].become(now);
+            rowAt(next).become(now);
             int answer = now.change(sort, number);
             if (answer == 1) {
                 next = next + 1 < past.length ? next + 1 : 0;
@@ -740,7 +745,7 @@ public final class BladeRing {
                 return NONE;
             }
             next = next > 0 ? next - 1 : past.length - 1;
-            now.become(past[next]);
+            now.become(rowAt(next));
             undoable--;
             return undoable;
         }
@@ -845,7 +850,7 @@ public final class BladeRing {
         int value;
 
         boolean append(long v) {
-            if (length + 8 > bytes.length) {
+            if (length < 0 || length + 8 > bytes.length) {
                 return false;
             }
             for (int i = 0; i < 8; i++) {
