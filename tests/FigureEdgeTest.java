@@ -75,6 +75,10 @@ final class FigureEdgeTest extends Edge {
         wrong("x", 0, 1);
         wrong(".x", 1, 1);
         wrong(".".repeat(159) + "x", 159, 1);
+        due("160 TOKENS", beats(".".repeat(160)), 160);
+        wrong(".".repeat(158) + "u", 159, 2);
+        wrong(".".repeat(159) + "u", 160, 2);
+        wrong(".".repeat(158) + "2(", 160, 2);
         says("Eight bytes come behind THE TAPE, the highest first");
         BladeRing z = new BladeRing();
         z.feed(0x7531206f32207433L);
@@ -727,5 +731,17 @@ final class FigureEdgeTest extends Edge {
             x.back(0);
             due("DONE, and BACK: " + texts[i], answers[i] == 1 ? x.alike(0) : 2, 2);
         }
+        says("as it is now");
+        BladeRing x = ringOf(5);
+        figure(x, 0, "u0");
+        figure(x, 1, "t6");
+        due("UNDER 0", x.mirrors(0), 1);
+        acts(x, "u0");
+        due("CAUGHT now", x.mirrors(0), 0);
+        x.undo();
+        due("no more", x.mirrors(0), 1);
+        due("no PLACE 6 of 5", x.mirrors(1), 0);
+        x.ring(7);
+        due("PLACE 6 of 7", x.mirrors(1), 1);
     }
 }

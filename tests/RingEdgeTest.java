@@ -403,6 +403,19 @@ final class RingEdgeTest extends Edge {
             due("ABOVE of none", x.blade(i, 1), 0);
             due("BELOW of none", x.blade(i, 2), 0);
         }
+        for (int n = 4; n <= 8; n++) {
+            for (int p = 0; p < n; p++) {
+                int a = (p + n - 1) % n;
+                int b = (p + 1) % n;
+                BladeRing y = after(n, "o" + p);
+                due("ABOVE of the upper one", y.blade(a, 1), 1);
+                due("BELOW of the upper one", y.blade(a, 2), 0);
+                due("those the upper one CROSSES", y.blade(a, 3), 1 << b);
+                due("ABOVE of the lower one", y.blade(b, 1), 0);
+                due("BELOW of the lower one", y.blade(b, 2), 1);
+                due("those the lower one CROSSES", y.blade(b, 3), 1 << a);
+            }
+        }
         // All that BLADE 0 can CROSS are n - 3: found by a search, for ABOVE and for BELOW.
         String[] aboves = {"o1", "o1u4", "o1u3o2", "o1u3o2u6", "o1u3o2u6u7"};
         String[] belows = {"u1", "u1o4", "u1u3u2", "u1u3u2o6", "u1u3u2o6o7"};

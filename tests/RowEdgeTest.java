@@ -405,7 +405,13 @@ final class RowEdgeTest extends Edge {
         due("and back", x.way(0), 1);
         due("wayAt", x.wayAt(0, 0), 1);
         x.undo();
+        due("wayAt, asked first", x.wayAt(1, 0), 0);
         due("as before", x.way(1), 2);
+        says("How many were met in the search for THE WAY (THE RING too)");
+        acts(x, "u0");
+        due("met, asked first", x.met(0), 2);
+        acts(x, "o0");
+        due("met, asked first", x.met(0), 1);
         x.stand(1);
         due("there", x.way(1), 0);
     }
@@ -596,6 +602,10 @@ final class RowEdgeTest extends Edge {
             for (int i = 0; i < 59; i++) {
                 y.ring(8);
                 due("CELLS " + i + " are 0: UNDER 0", y.scan(0, lane, i, 1), 1);
+                if (i % 29 == 0) {
+                    seated("UNDER 0", y, "10234567");
+                    due("it was UNDER", y.over(1, 7), 1);
+                }
             }
         }
     }
