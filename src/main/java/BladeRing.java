@@ -1127,7 +1127,7 @@ public final class BladeRing {
         /** The slot of what is ALIKE with it, or a free one. */
         int slotOf(long key, long over) {
             long mixed = (key * 0x9E3779B97F4A7C15L ^ over) * 0xC2B2AE3D27D4EB4FL;
-            int slot = (int) (mixed >>> 52);
+            int slot = (int) (mixed >>> 52) & (SLOTS - 1);
             for (int i = 0; i < SLOTS && slots[slot] != 0; i++) {
                 int one = slots[slot] - 1;
                 if (one < 0 || one >= MET_MOST || keys[one] == key && overs[one] == over) {
